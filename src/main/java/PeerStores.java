@@ -622,6 +622,21 @@ public final class PeerStores {
             return ((set >> piece) & 1) == 1;
         }
 
+        static int[] pieces(int bytes) {
+            int[] values = new int[PIECES];
+            int sum = 0;
+            int weightedSum = 0;
+            for (int piece = 0; piece < DATA_PIECES; piece++) {
+                int value = (bytes >> (8 * piece)) & (BYTES - 1);
+                values[piece] = value;
+                sum ^= value;
+                weightedSum ^= weighted(piece, value);
+            }
+            values[DATA_PIECES] = sum;
+            values[DATA_PIECES + 1] = weightedSum;
+            return values;
+        }
+
         /** Four bytes, from the pieces of the set alone, of which there are at least four. */
         static int solve(int[] values, int set) {
             int bytes = 0;
@@ -709,28 +724,20 @@ public final class PeerStores {
     /** A file: what its pieces are, and who holds them. */
     private static final class StoredFile {
         private final int owner;
-        private final int[] values = new int[PIECES];
+        private final int[] values;
         private final Tree tree;
         private final int[] holders = new int[PIECES];
         private final boolean[] kept = new boolean[PIECES];
         private final int[] misses = new int[PIECES];
 
         StoredFile(int owner, int bytes) {
+            int[] all = Code.pieces(bytes);
             this.owner = owner;
-            int sum = 0;
-            int weightedSum = 0;
-            for (int piece = 0; piece < DATA_PIECES; piece++) {
-                int value = (bytes >> (8 * piece)) & (BYTES - 1);
-                values[piece] = value;
-                sum ^= value;
-                weightedSum ^= Code.weighted(piece, value);
-            }
-            values[DATA_PIECES] = sum;
-            values[DATA_PIECES + 1] = weightedSum;
+            values = all;
+            tree = new Tree(all);
             for (int piece = 0; piece < PIECES; piece++) {
                 holders[piece] = NONE;
             }
-            tree = new Tree(values);
         }
 
         int owner() {
@@ -742,7 +749,7 @@ public final class PeerStores {
         }
 
         int value(int piece) {
-            return isPiece(piece) ? values[piece] : NONE;
+            return piece >= 0 && piece < values.length ? values[piece] : NONE;
         }
 
         int key(int piece) {

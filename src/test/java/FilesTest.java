@@ -9,6 +9,7 @@ public final class FilesTest {
         fileNumbers();
         fileStores();
         fileHolders();
+        fileLooksUp();
         pieces();
         pieceRefused();
         spoils();
@@ -107,6 +108,31 @@ public final class FilesTest {
         z.peer(1, 0, 0);
         z.file(0, 5);
         check.same("8: an honest one keeps what is one's of a band", z.piece(0, 0, 2), 1);
+    }
+
+    /** A twin that has the same peers is asked by hand for what file() looks up by itself. */
+    private static void fileLooksUp() {
+        int[] ids = {0, 1, 2, 4, 8, 16, 32, 64, 128, 85, 170, 255};
+        PeerStores x = PeersTest.star(ids);
+        PeerStores twin = PeersTest.star(ids);
+        int notHeld = 0;
+        for (int file = 0; file < 12; file++) {
+            int owner = file % ids.length;
+            x.file(owner, file * 0x1F3A5B77);
+            int taken = 0;
+            for (int i = 0; i < 6; i++) {
+                int result = twin.lookup(owner, Model.hash(x.piece(file, i, 0), i) & 255, 2);
+                int holder = -1;
+                for (int rest = result; rest > 0 && holder < 0; rest /= 32) {
+                    holder = (taken >> rest % 32 - 1 & 1) == 0 ? rest % 32 - 1 : -1;
+                }
+                taken |= holder < 0 ? 0 : 1 << holder;
+                notHeld += holder < 0 ? 1 : 0;
+                check.same("8: the first of the result that is free", x.piece(file, i, 1), holder);
+            }
+            check.same("8: as many were asked", x.asked(), twin.asked());
+        }
+        check.same("8: some have none in the result", notHeld > 0, true);
     }
 
     private static void pieces() {
@@ -236,6 +262,7 @@ public final class FilesTest {
         check.fails("14: file ahead of pieces", NO_SUCH, () -> x.mend(-1, 64));
         check.fails("14: pieces below 0", BAD, () -> x.mend(0, -1));
         check.fails("14: 64", BAD, () -> x.mend(0, 64));
+        check.fails("14: four, and a seventh piece", BAD, () -> x.mend(0, 64 + 15));
         check.fails("14: none", BAD, () -> x.mend(0, 0));
         check.fails("14: three", BAD, () -> x.mend(0, 7));
         check.fails("14: three others", BAD, () -> x.mend(0, 56));

@@ -1,6 +1,8 @@
 /** Promises 21 to 23: owes, net, worth. */
 public final class LedgerTest {
     private static final Class<?> NO_SUCH = IndexOutOfBoundsException.class;
+    private static final int[] UP = {1, 2, 0};
+    private static final int[] DOWN = {2, 0, 1};
     private static final Check check = new Check("LedgerTest");
 
     public static void main(String[] args) {
@@ -73,9 +75,8 @@ public final class LedgerTest {
     }
 
     /** A ring of three is made of debts that come of three files with one holder each. */
-    private static PeerStores ring(int... days) {
+    private static PeerStores ring(int[] next, int... days) {
         PeerStores x = PeersTest.star(0, 1, 2);
-        int[] next = {1, 2, 0};
         for (int owner = 0; owner < 3; owner++) {
             int other = 3 - owner - next[owner];
             x.turn(other, false);
@@ -94,7 +95,7 @@ public final class LedgerTest {
     }
 
     private static void netsThree() {
-        PeerStores x = ring(1, 2, 1);
+        PeerStores x = ring(UP, 1, 2, 1);
         check.same("22: the first owes the second", x.owes(0, 1), 3);
         check.same("22: the second owes the third", x.owes(1, 2), 6);
         check.same("22: the third owes the first", x.owes(2, 0), 3);
@@ -103,11 +104,16 @@ public final class LedgerTest {
         check.same("22: the second one's is less", x.owes(1, 2), 3);
         check.same("22: the third one's is gone", x.owes(2, 0), 0);
         check.same("22: nothing is left", x.net(), 0);
+        PeerStores y = ring(DOWN, 2, 1, 1);
+        check.same("22: the first owes the third", y.owes(0, 2), 6);
+        check.same("22: the other way round", y.net(), 9);
+        check.same("22: the rest is owed", y.owes(0, 2), 3);
+        check.same("22: nothing else", y.owes(2, 1) + y.owes(1, 0), 0);
     }
 
     /** Rings of two go ahead of those of three, so that less is left for the ring of three. */
     private static void netsInOrder() {
-        PeerStores x = ring(2, 2, 2);
+        PeerStores x = ring(UP, 2, 2, 2);
         x.turn(0, true);
         x.turn(1, true);
         x.turn(2, false);

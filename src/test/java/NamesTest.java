@@ -29,6 +29,9 @@ public final class NamesTest {
         check.same("18: the bounds", x.name(1, 255), 999999);
         check.same("17: zeros", x.tell(0, 0, 0, 0), 3);
         check.same("18: zeros", x.name(0, 0), 0);
+        PeerStores z = PeersTest.star(0, 1);
+        check.same("17: the peer 0 keeps one too", z.tell(1, 5, 0, 7), 1);
+        check.same("18: and tells it", z.name(1, 5), 7);
         PeerStores y = PeersTest.strangers(5);
         check.same("17: nobody keeps it", y.tell(0, 5, 1, 1), 0);
         check.same("18: nor does the teller", y.name(0, 5), -1);
@@ -110,6 +113,17 @@ public final class NamesTest {
         check.same("18: of those that answer", y.name(0, 3), 8002);
         y.turn(1, true);
         check.same("18: the greatest number", y.name(0, 3), 9001);
+        PeerStores z = PeersTest.star(0, 1, 2, 4, 8);
+        for (int other = 1; other < 4; other++) {
+            z.turn(other, false);
+        }
+        check.same("17: by one that is left", z.tell(0, 0, 9, 9), 1);
+        check.same("18: by the one that keeps it", z.name(0, 0), 9009);
+        for (int other = 1; other < 4; other++) {
+            z.turn(other, true);
+        }
+        check.same("18: not by a fourth", z.name(0, 0), -1);
+        check.same("6: though it is asked", z.asked(), 4);
     }
 
     /** Two keep the same number with two values; the closer one is heard. */
@@ -144,7 +158,6 @@ public final class NamesTest {
     }
 
     private static void spreads() {
-        // A chain: each one has joined by the one ahead of it, who was alone with it then.
         PeerStores x = PeersTest.star(0, 1, 2, 4);
         check.same("19: all others", x.spread(0), 3);
         check.same("20: in one round", x.rounds(), 1);

@@ -16,6 +16,7 @@ public final class PeersTest {
         lookups();
         lookupRefused();
         lookupRounds();
+        lookupChoosesAhead();
         lookupTellsThree();
         lookupWays();
         lookupBand();
@@ -205,7 +206,7 @@ public final class PeersTest {
         check.same("5: nothing has changed", x.asked(), 1);
     }
 
-    /** Peer 0 keeps 1, 2 and 3 in three buckets, and they keep it alone. */
+    /** Peer 0 keeps others, each in a bucket of its own, who are honest at first and silent then. */
     private static void lookupRounds() {
         PeerStores x = star(0, 128, 64, 32);
         check.same("5: the third of the first three is asked a round later", x.lookup(0, 0, 1), row(3, 2, 1));
@@ -224,6 +225,18 @@ public final class PeersTest {
         }
     }
 
+    /** Peer 3 keeps 0 and 4; 0 tells it of two that are closer to the key than both, and silent. */
+    private static void lookupChoosesAhead() {
+        PeerStores x = new PeerStores();
+        x.peer(4, 0, -1);
+        x.peer(1, 1, 0);
+        x.peer(2, 1, 0);
+        x.peer(128, 0, 0);
+        x.peer(8, 0, 3);
+        check.same("5: the second is asked though closer ones are told of", x.lookup(3, 0, 1), row(0, 4));
+        check.same("6: two, and two", x.asked(), 4);
+    }
+
     /** Peer 0 keeps four that are silent, and peer 5, who joins by it; peer 5 keeps it alone. */
     private static void lookupTellsThree() {
         PeerStores x = new PeerStores();
@@ -238,6 +251,16 @@ public final class PeersTest {
         check.same("6: again the asker is one of the three", x.asked(), 3);
         check.same("5: far from the asker", x.lookup(5, 132, 1), row(0));
         check.same("6: three others are told of, two of them in the first three", x.asked(), 3);
+        // Peer 0 keeps the asker, 1, 4, 5 and 6, told in this order by their distances from the key 0.
+        PeerStores z = new PeerStores();
+        z.peer(7, 0, -1);
+        for (int id : new int[] {1, 4, 5, 6}) {
+            z.peer(id, 1, 0);
+        }
+        z.peer(0, 0, 0);
+        check.same("6: no fourth is told of", z.asked(), 3);
+        check.same("5: nor when it is asked for", z.lookup(5, 0, 1), row(0));
+        check.same("6: no fourth either", z.asked(), 3);
         PeerStores y = star(0, 128, 64, 32, 16, 8);
         check.same("5: what is told of comes into the row", y.lookup(1, 8, 1), row(5, 0, 4));
     }
@@ -259,7 +282,11 @@ public final class PeersTest {
         PeerStores z = star(0, 64, 32);
         check.same("5: both are asked", z.lookup(0, 64, 2), row(1, 2));
         check.same("6: nobody is asked twice", z.asked(), 2);
-        check.same("4: the first way's is heard of first", z.bucket(0, 6, 0), 1);
+        PeerStores v = star(0, 4, 5);
+        v.lookup(0, 4, 2);
+        check.same("5: the closest goes the first way, and is asked first", v.bucket(0, 2, 0), 1);
+        v.lookup(0, 5, 2);
+        check.same("5: so is the other one, if it is closest", v.bucket(0, 2, 0), 2);
     }
 
     private static void lookupBand() {
